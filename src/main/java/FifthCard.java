@@ -418,23 +418,16 @@ public final class FifthCard {
         int hard = 0;
         int least = HAND_ROOM + 1;
         for (int rule = 0; rule < told.ruleCount; rule++) {
-            int unlike = leastApart(rule);
-            if (unlike < least) {
-                least = unlike;
-                hard = rule;
+            Laid laid = ledger.laidBy(rule);
+            for (int other = 0; other < told.ruleCount; other++) {
+                int unlike = other == rule ? least : ledger.handsApart(laid, ledger.laidBy(other));
+                if (unlike < least) {
+                    least = unlike;
+                    hard = rule;
+                }
             }
         }
         return answer(hard);
-    }
-
-    private int leastApart(int rule) {
-        int least = HAND_ROOM;
-        for (int other = 0; other < told.ruleCount; other++) {
-            if (other != rule) {
-                least = Math.min(least, ledger.handsApart(ledger.laidBy(rule), ledger.laidBy(other)));
-            }
-        }
-        return least;
     }
 
     public int shows(int rule, int h) {
@@ -613,7 +606,7 @@ public final class FifthCard {
 
         /** What follows from the numbers told. */
         void settle() {
-            ranks = suits > 0 ? cards / suits : 0;
+            ranks = suits > 0 ? cards / suits : cards;
             shownSize = handSize - keptSize;
             orders = (int) falling(shownSize, shownSize);
             tiltSets = tilts ? 1 << shownSize : 1;
@@ -701,18 +694,6 @@ public final class FifthCard {
             int ahead = 0;
             for (int i = 0; i < length; i++) {
                 int card = row[i];
-                number = number * (cards - i) + card - Integer.bitCount(ahead & (1 << card) - 1);
-                ahead |= 1 << card;
-            }
-            return number;
-        }
-
-        /** The number of the row of those CARDS of a HAND that stand at certain places, both packed. */
-        int numberAt(int hand, int places) {
-            int number = 0;
-            int ahead = 0;
-            for (int i = 0; i < shownSize; i++) {
-                int card = cardAt(hand, cardAt(places, i));
                 number = number * (cards - i) + card - Integer.bitCount(ahead & (1 << card) - 1);
                 ahead |= 1 << card;
             }
@@ -1470,6 +1451,7 @@ public final class FifthCard {
         /** The places of a HAND that can be shown, in order, packed. */
         private final int[] places = new int[MOST_PLACES];
         private int placeCount;
+        private final int[] shown = new int[LARGEST_HAND];
         /** By HAND and places: 1 and the row of CARDS there without tilts; 0 while it isn't known. */
         private int[] cardRows = new int[0];
         /** By ROW: 1 and its HAND; 0 for none. */
@@ -1510,11 +1492,11 @@ public final class FifthCard {
             if (cardRows.length < all) {
                 cardRows = new int[all];
             }
-            Arrays.fill(cardRows, 0, all, 0);
+            Arrays.fill(cardRows, 0);
             if (owners.length < deck.rowCount) {
                 owners = new int[deck.rowCount];
             }
-            Arrays.fill(owners, 0, deck.rowCount, 0);
+            Arrays.fill(owners, 0);
             Arrays.fill(rowOfHand, NONE);
             settled = 0;
             for (int h = 0; h < deck.handCount && deck.stranger; h++) {
@@ -1526,13 +1508,14 @@ public final class FifthCard {
         private void sortRows(int h) {
             int from = h * placeCount;
             for (int i = 0; i < placeCount; i++) {
-                int row = 1 + deck.numberAt(hands[h], places[i]);
+                rowAt(h, i);
+                int known = cardRows[from + i];
                 int to = from + i;
-                while (to > from && cardRows[to - 1] > row) {
+                while (to > from && cardRows[to - 1] > known) {
                     cardRows[to] = cardRows[to - 1];
                     to--;
                 }
-                cardRows[to] = row;
+                cardRows[to] = known;
             }
         }
 
@@ -1540,7 +1523,10 @@ public final class FifthCard {
         private int rowAt(int h, int i) {
             int at = h * placeCount + i;
             if (cardRows[at] == 0) {
-                cardRows[at] = 1 + deck.numberAt(hands[h], places[i]);
+                for (int j = 0; j < deck.shownSize; j++) {
+                    shown[j] = Deck.cardAt(hands[h], Deck.cardAt(places[i], j));
+                }
+                cardRows[at] = 1 + deck.rowNumber(shown, deck.shownSize);
             }
             return (cardRows[at] - 1) * deck.tiltSets;
         }
