@@ -230,30 +230,30 @@ public final class OracleTest {
         int h = odd(random, hands);
         int r = odd(random, rows);
         switch (name) {
-            case "trick": p.call(name, random.nextInt(30) - 5); break;
-            case "hand": p.call(name, h, random.nextInt(7) - 1); break;
-            case "row": p.call(name, r, random.nextInt(7) - 1); break;
-            case "tilted": p.call(name, r); break;
-            case "fits": p.call(name, h, random.nextBoolean() ? r : near(p, h, random)); break;
-            case "handOf": p.call(name, five(p, random)); break;
-            case "lays": case "shows": p.call(name, rule, h); break;
-            case "kept": p.call(name, rule, h, random.nextInt(4) - 1); break;
-            case "says": p.call(name, rule, r); break;
+            case "trick": p.callOdd(random, name, random.nextInt(30) - 5); break;
+            case "hand": p.callOdd(random, name, h, random.nextInt(7) - 1); break;
+            case "row": p.callOdd(random, name, r, random.nextInt(7) - 1); break;
+            case "tilted": p.callOdd(random, name, r); break;
+            case "fits": p.callOdd(random, name, h, random.nextBoolean() ? r : near(p, h, random)); break;
+            case "handOf": p.callOdd(random, name, five(p, random)); break;
+            case "lays": case "shows": p.callOdd(random, name, rule, h); break;
+            case "kept": p.callOdd(random, name, rule, h, random.nextInt(4) - 1); break;
+            case "says": p.callOdd(random, name, rule, r); break;
             case "works": case "laid": case "fails": case "seen": case "borne": case "agrees": case "wrong": case "words":
-                p.call(name, rule); break;
-            case "clash": p.call(name, rule, random.nextInt(2)); break;
-            case "wordsWork": p.call(name, random.nextInt(23) - 1); break;
-            case "table": p.call(name, h); break;
-            case "count": p.call(name, random.nextInt(4) == 0 ? 190 + random.nextInt(15) : random.nextInt(30), random.nextInt(2)); break;
-            case "judge": p.call(name, random.nextInt(8) - 1); break;
-            case "evening": p.call(name, random.nextInt(8) - 1, random.nextInt(2)); break;
-            case "apart": p.call(name, rule, other); break;
-            case "mean": p.call(name, rule, other, random.nextInt(2)); break;
-            case "seed": p.call(name, new int[] {-1, 0, 65536, 65537, random.nextInt(65536)}[random.nextInt(5)]); break;
-            case "back": p.call(name, random.nextInt(5) - 1); break;
-            case "led": p.call(name, rule, random.nextInt(10) - 1); break;
-            case "size": p.call(name, random.nextInt(14) - 1); break;
-            default: p.call(name); break;
+                p.callOdd(random, name, rule); break;
+            case "clash": p.callOdd(random, name, rule, random.nextInt(2)); break;
+            case "wordsWork": p.callOdd(random, name, random.nextInt(23) - 1); break;
+            case "table": p.callOdd(random, name, h); break;
+            case "count": p.callOdd(random, name, random.nextInt(4) == 0 ? 190 + random.nextInt(15) : random.nextInt(30), random.nextInt(2)); break;
+            case "judge": p.callOdd(random, name, random.nextInt(8) - 1); break;
+            case "evening": p.callOdd(random, name, random.nextInt(8) - 1, random.nextInt(2)); break;
+            case "apart": p.callOdd(random, name, rule, other); break;
+            case "mean": p.callOdd(random, name, rule, other, random.nextInt(2)); break;
+            case "seed": p.callOdd(random, name, new int[] {-1, 0, 65536, 65537, random.nextInt(65536)}[random.nextInt(5)]); break;
+            case "back": p.callOdd(random, name, random.nextInt(5) - 1); break;
+            case "led": p.callOdd(random, name, rule, random.nextInt(10) - 1); break;
+            case "size": p.callOdd(random, name, random.nextInt(14) - 1); break;
+            default: p.callOdd(random, name); break;
         }
         p.call("trouble");
         p.call("where");
@@ -325,6 +325,14 @@ public final class OracleTest {
             call("trouble");
             call("fault");
             call("where");
+        }
+
+        /** Now and then with a number far out of all bounds. */
+        void callOdd(Random random, String name, int... a) {
+            if (a.length > 0 && random.nextInt(12) == 0) {
+                a[random.nextInt(a.length)] = new int[] {Integer.MIN_VALUE, Integer.MAX_VALUE, -2, 1 << 20}[random.nextInt(4)];
+            }
+            call(name, a);
         }
 
         long call(String name, int... a) {
@@ -1220,7 +1228,7 @@ public final class OracleTest {
                     }
                     return yes(most);
                 case "judge": return evening(a[0]) ? yes(fit(evenings.get(a[0])[0], evenings.get(a[0])[1]) ? 1 : 0) : no(1);
-                case "evening": return evening(a[0]) ? yes(evenings.get(a[0])[a[1]]) : no(1);
+                case "evening": return evening(a[0]) ? yes(evenings.get(a[0])[a[1] == 1 ? 1 : 0]) : no(1);
                 case "found":
                     int bits = 0;
                     for (int r = 0; r < rules.size(); r++) {
