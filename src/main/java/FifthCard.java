@@ -1251,7 +1251,8 @@ public final class FifthCard {
 
     /** A set of ROWS, each with a HAND; cleared without a walk through it, since that is done often. */
     private static final class RowSet {
-        private static final int BITS = 13;
+        /** Room for 3,168, the most: 792 ROWS laid of four CARDS, each with the three that it becomes. */
+        private static final int BITS = 12;
         private static final int ROOM = 1 << BITS;
         private final int[] keys = new int[ROOM];
         private final int[] holders = new int[ROOM];

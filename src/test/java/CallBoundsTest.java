@@ -1,5 +1,9 @@
+import java.util.ArrayList;
+import java.util.Collections;
+import java.util.HashSet;
 import java.util.List;
 import java.util.NoSuchElementException;
+import java.util.Set;
 import java.util.function.Consumer;
 import java.util.function.ToLongFunction;
 
@@ -17,6 +21,7 @@ public final class CallBoundsTest extends Trial {
     private static final int FAR = Integer.MAX_VALUE;
 
     public static void main(String[] args) {
+        constantNone();
         newObjectHasNoTrick();
         newObjectSizes();
         feedTwenty();
@@ -26,6 +31,7 @@ public final class CallBoundsTest extends Trial {
         trickFirstBytes();
         trickTapeEmpty();
         trickSeedAndImages();
+        trickFromNowOn();
         trickHowManyRules();
         trickRefusedBy2();
         trickRefusedBy4();
@@ -51,6 +57,7 @@ public final class CallBoundsTest extends Trial {
         works();
         clash();
         laid();
+        laidOfTheMost();
         fails();
         seen();
         borne();
@@ -119,6 +126,11 @@ public final class CallBoundsTest extends Trial {
     }
 
     // ---- promises 1 to 5
+
+    private static void constantNone() {
+        sentence("the constants", "NONE = -1: There is none; refused");
+        due("NONE", FifthCard.NONE, -1);
+    }
 
     private static void newObjectHasNoTrick() {
         sentence("promise 1", "FifthCard(): No TRICK.");
@@ -242,6 +254,59 @@ public final class CallBoundsTest extends Trial {
         tell(x, SMALL);
         due("no EVENINGS", x.size(8), 0);
         due("drawn from SEED 0", x.draw(), 74 % HANDS);
+    }
+
+    /** What a TRICK and its RULES answer, in some 150 calls. */
+    private static String answers(FifthCard x) {
+        StringBuilder s = new StringBuilder(state(x));
+        s.append(" any ").append(x.fitting()).append(' ').append(x.pairs()).append(' ').append(x.most()).append(' ')
+            .append(x.shortest()).append(' ').append(x.found()).append(' ').append(x.hardest()).append(' ').append(x.table(0));
+        for (int words = 0; words < 20; words++) {
+            s.append(' ').append(x.wordsWork(words));
+        }
+        for (int rule = 0; rule < x.size(7); rule++) {
+            s.append(" rule ").append(rule).append(": ").append(x.lays(rule, 0)).append(' ').append(x.lays(rule, 3)).append(' ')
+                .append(x.lays(rule, x.hands() - 1)).append(' ').append(x.says(rule, 1)).append(' ').append(x.works(rule)).append(' ')
+                .append(x.clash(rule, false)).append(' ').append(x.clash(rule, true)).append(' ').append(x.laid(rule)).append(' ')
+                .append(x.fails(rule)).append(' ').append(x.agrees(rule)).append(' ').append(x.wrong(rule));
+        }
+        // behind all else, so that what was asked of one RULE can't be taken for another's
+        for (int rule = 0; rule < x.size(7); rule++) {
+            s.append(" swaps ").append(x.seen(rule)).append(x.borne(rule));
+            for (int other = 0; other < rule; other++) {
+                s.append(" apart ").append(x.apart(rule, other));
+            }
+        }
+        return s.toString();
+    }
+
+    private static void trickFromNowOn() {
+        sentence("promise 3", "are the TRICK from now on");
+        String[] texts = {TRICK, "trick cards 8 suits 1 hand 4 kept 1 stranger tilts;rule a keeps low tells gap;rule b suit",
+            "trick cards 10 suits 2 hand 5 kept 1 she tilts;rule a table;rule b suit;rule c keeps high tells sum;rule d keeps mid tells place",
+            EIGHT + ";rule a keeps sum tells ring;rule b keeps low tells place;rule c keeps sum tells ring;rule d table",
+            "trick cards 5 suits 1 hand 4 kept 1 she;rule p keeps high tells place;rule r keeps low tells ring"};
+        for (String before : texts) {
+            for (String text : texts) {
+                FifthCard x = told(before);
+                answers(x);
+                tell(x, text);
+                same(text + " behind " + before, answers(x), answers(told(text)));
+                tell(x, "trick cards 4");
+                same(text + " behind a FAULT", answers(x).replace("fault 1", "fault 0"), answers(told(text)));
+            }
+        }
+        // the last of these by hand: 1 2 0, 2 0 1, 3 0 1, 3 0 2, 3 1 2, and rising rows, two of them 2 3 4
+        FifthCard last = told(TRICK);
+        answers(last);
+        tell(last, texts[4]);
+        due("laid(0)", last.laid(0), 5);
+        due("laid(1)", last.laid(1), 4);
+        due("clash(1, false)", last.clash(1, false), 4);
+        due("clash(1, true)", last.clash(1, true), 3);
+        due("seen(0)", last.seen(0), 1);
+        due("borne(0)", last.borne(0), 0);
+        due("borne(1)", last.borne(1), 1);
     }
 
     private static void trickHowManyRules() {
@@ -569,6 +634,45 @@ public final class CallBoundsTest extends Trial {
         answered(told(EIGHT + ";rule x keeps sum tells ring"), "all", x -> x.laid(0), 56);
     }
 
+    /** All that a RULE LAYS, asked of an object anew for each 400 HANDS. */
+    private static List<Integer> laysAll(String text) {
+        List<Integer> all = new ArrayList<>();
+        FifthCard x = told(text);
+        int hands = x.hands();
+        for (int h = 0; h < hands; h++) {
+            x = h % 400 == 399 ? told(text) : x;
+            all.add(x.lays(0, h));
+        }
+        return all;
+    }
+
+    private static void laidOfTheMost() {
+        sentence("promises 16 to 20", "of the most HANDS there are");
+        for (String head : new String[] {"trick cards 8 suits 1 hand 4 kept 1 stranger tilts", "trick cards 12 suits 2 hand 3 kept 1 stranger",
+            "trick cards 12 suits 2 hand 5 kept 1 she tilts", "trick cards 12 suits 2 hand 5 kept 2 she"}) {
+            for (String rule : new String[] {";rule r keeps sum tells gap", ";rule r keeps high tells place", ";rule r keeps low tells ring",
+                ";rule r keeps mid tells rank", ";rule r suit"}) {
+                List<Integer> all = laysAll(head + rule);
+                Set<Integer> unlike = new HashSet<>();
+                int clash = -2;
+                for (int h = 0; h < all.size(); h++) {
+                    if (all.get(h) >= 0 && !unlike.add(all.get(h)) && clash < 0) {
+                        clash = h;
+                    }
+                }
+                int fails = Collections.frequency(all, -2);
+                FifthCard x = told(head + rule);
+                due(head + rule + ": laid(0)", x.laid(0), unlike.size());
+                due(head + rule + ": fails(0)", x.fails(0), fails);
+                due(head + rule + ": clash(0, false)", x.clash(0, false), clash);
+                due(head + rule + ": clash(0, true)", x.clash(0, true), clash < 0 ? -2 : all.indexOf(all.get(clash)));
+                due(head + rule + ": works(0)", x.works(0), clash < 0 && fails == 0 ? 1 : 0);
+                int last = all.get(all.size() - 1);
+                due(head + rule + ": says of the last", x.says(0, last), last < 0 ? -1 : all.indexOf(last));
+            }
+        }
+    }
+
     private static void fails() {
         sentence("promise 20", "fails(): How many HANDS a RULE LAYS none. NONE: 1");
         withoutTrick("fails(0)", x -> x.fails(0));
@@ -759,6 +863,15 @@ public final class CallBoundsTest extends Trial {
         }
         answered(trick(), "the first and the last", x -> x.apart(0, RULES - 1), 4);
         answered(trick(), "the last and the first", x -> x.apart(RULES - 1, 0), 4);
+        int[][] all = {{0, 2, 6, 4}, {2, 0, 6, 6}, {6, 6, 0, 4}, {4, 6, 4, 0}};
+        FifthCard one = trick();
+        for (int rule = 0; rule < RULES; rule++) {
+            for (int other = 0; other < RULES; other++) {
+                if (rule != other) {
+                    due(rule + " and " + other, one.apart(rule, other), all[rule][other]);
+                }
+            }
+        }
         answered(told(SMALL + ";rule a suit;rule b suit"), "never", x -> x.apart(0, 1), 0);
         refused(told(SMALL + ";rule a suit"), "one RULE", x -> x.apart(0, 1), 1);
     }

@@ -46,6 +46,7 @@ public final class RuleBoundsTest extends Trial {
         suitNoTwo();
         suitNothingTilted();
         tableLeast();
+        tablesWhole();
         tableNone();
         tableUpTo300();
         worksEachHand();
@@ -379,6 +380,7 @@ public final class RuleBoundsTest extends Trial {
         due("far below", valueTold(x, 1, 0, 1, 2, 11), 9);
         due("0 above 11, round", valueTold(x, 0, 0, 3, 7, 11), 1);
         due("3 above 6, round", valueTold(x, 0, 3, 4, 5, 6), 9);
+        due("5 above 0, the least CARD", valueTold(told(TWELVE + ";rule m keeps mid tells gap"), 0, 0, 5, 6, 7), 5);
         // one shown: gaps of 11, the greatest, of 10, and of 1; odd ones are tilted
         FifthCard two = told("trick cards 12 suits 1 hand 2 kept 1 she tilts;rule l keeps low tells gap");
         same("0 above 1, round", laidFor(two, 0, 0, 1), "1'");
@@ -603,6 +605,38 @@ public final class RuleBoundsTest extends Trial {
         same("a stranger's 1 0 2", laidFor(told("trick cards 4 suits 1 hand 3 kept 1 stranger tilts;rule t table"), 0, 1, 0, 2), "0 2'");
     }
 
+    /** Found by trying, for each HAND in turn, each ROW with a pairing of all HANDS behind it. */
+    private static final String[] TABLE_TRICKS = {"trick cards 4 suits 1 hand 3 kept 1 stranger tilts", EIGHT,
+        "trick cards 5 suits 1 hand 3 kept 1 she held", "trick cards 4 suits 1 hand 4 kept 1 stranger",
+        "trick cards 5 suits 1 hand 4 kept 2 she held tilts"};
+    private static final String[] TABLES = {"0 1 2 4 3 5 6 8 12 16 13 17 24 9 14 20 25 28 36 7 15 18 26 29",
+        "0 2 3 4 5 7 1 14 18 19 6 21 25 26 27 28 33 34 35 49 42 8 10 11 12 15 9 22 43 13 29 46 50 36 41 48 16 23 44 20 17 30 51 37 "
+            + "54 55 24 31 52 40 38 45 32 39 53 47",
+        "0 2 3 1 11 15 5 7 6 10", "0 1 2 3 4 5 6 7 8 9 10 11 12 13 14 15 16 17 18 19 20 21 22 23", "0 1 2 4 20"};
+
+    private static String allTable(FifthCard x) {
+        StringBuilder s = new StringBuilder();
+        for (int h = 0; h < x.hands(); h++) {
+            s.append(h > 0 ? " " : "").append(x.table(h));
+        }
+        return s.toString();
+    }
+
+    private static void tablesWhole() {
+        sentence("term II", "each HAND has a ROW that FITS it, no two the same");
+        for (int i = 0; i < TABLES.length; i++) {
+            same(TABLE_TRICKS[i], allTable(told(TABLE_TRICKS[i])), TABLES[i]);
+        }
+        // whichever TRICK was there before
+        for (int first = 0; first < TABLES.length; first++) {
+            FifthCard x = told(TABLE_TRICKS[first]);
+            x.table(0);
+            int second = (first + 1) % TABLES.length;
+            tell(x, TABLE_TRICKS[second]);
+            same(TABLE_TRICKS[second] + " behind another", allTable(x), TABLES[second]);
+        }
+    }
+
     private static void tableNone() {
         sentence("term II", "none if there is no TABLE");
         for (String text : new String[] {SMALL, "trick cards 9 suits 1 hand 3 kept 1 she", "trick cards 6 suits 1 hand 3 kept 1 she held",
@@ -792,6 +826,15 @@ public final class RuleBoundsTest extends Trial {
         same("0 1 2", laidFor(two, 0, 0, 1, 2), "0 1");
         same("0 1 3", laidFor(two, 0, 0, 1, 3), "1 0");
         due("both laid", two.seen(0), 0);
+        // 0 1, 1 0, 2 0, 2 1: the first ROW of all and one other
+        FifthCard first = told(SHE + ";rule h keeps high tells place");
+        same("all laid", allLaid(first, 0), "0 1, 1 0, 2 0, 2 1");
+        due("the first ROW of all", first.seen(0), 0);
+        // 1 2, 1 3, 2 3 by the one: it is the other that LAYS 2 1
+        FifthCard other = told(SHE + ";rule l keeps low tells ring;rule h keeps high tells place");
+        same("1 2 by the one", laidFor(other, 0, 0, 1, 2), "1 2");
+        same("2 1 by the other", laidFor(other, 1, 1, 2, 3), "2 1");
+        due("of the ROWS that this RULE LAYS", other.seen(0), 1);
         // 0 1 2 for v 6, 0 2 1 for v 7 of 12 with 0 1 2 shown: the last two
         FifthCard last = told("trick cards 12 suits 1 hand 4 kept 1 she;rule h keeps high tells place");
         due("the last two", last.seen(0), 0);
@@ -804,6 +847,16 @@ public final class RuleBoundsTest extends Trial {
         same("0 1 2", laidFor(x, 0, 0, 1, 2), "0' 1");
         same("0 1 3", laidFor(x, 0, 0, 1, 3), "1' 0");
         due("0' 1 becomes 1 0', not 1' 0", x.seen(0), 1);
+        FifthCard both = told("trick cards 5 suits 1 hand 4 kept 2 she tilts;rule h keeps high tells place");
+        same("one tilted, ahead or behind", allLaid(both, 0), "2' 1, 1 2', 1 3', 2 3', 3 2");
+        due("2' 1 becomes 1 2'", both.seen(0), 0);
+        due("so it isn't BORNE", both.borne(0), 0);
+        FifthCard five = told("trick cards 5 suits 1 hand 3 kept 1 she tilts;rule h keeps high tells place");
+        same("0 1 3 of five", laidFor(five, 0, 0, 1, 3), "1' 0");
+        same("0 1 4 of five", laidFor(five, 0, 0, 1, 4), "0 1'");
+        due("1' 0 becomes 0 1'", five.seen(0), 0);
+        due("held: rising ones become falling ones, however tilted",
+            told(SHE + " held tilts;rule h keeps high tells gap").seen(0), 1);
         // 8 of 12 is laid untilted, 9 too: 0 1 and 1 0
         due("untilted ones", told("trick cards 12 suits 1 hand 3 kept 1 she tilts;rule h keeps high tells place").seen(0), 0);
     }

@@ -127,6 +127,16 @@ public final class TextBoundsTest extends Trial {
         faulty(SMALL + ";rule a ^asuit", 1);
         faulty(SMALL + ";rule a ^sui", 1);
         faulty(SMALL + ";rule a ^tabl", 1);
+        // as long, but with another first letter, or another last one
+        faulty("^prick cards 4 suits 2 hand 2 kept 1 she", 1);
+        faulty("trick ^lards 4 suits 2 hand 2 kept 1 she", 1);
+        faulty("trick cards 4 suits 2 hand 2 kept 1 ^the", 1);
+        faulty(SMALL + ";^mule a suit", 1);
+        faulty(SMALL + ";rule a ^cable", 1);
+        faulty(SMALL + ";rule a ^suis", 1);
+        faulty(SMALL + ";rule a keeps ^row tells place", 1);
+        faulty(SMALL + ";rule a keeps low tells ^bank", 1);
+        faulty(SMALL + ";rule a keeps low tells ^rink", 1);
         faulty(SMALL + ";rule abcd^1efgh suit", 1);
     }
 
@@ -623,6 +633,8 @@ public final class TextBoundsTest extends Trial {
         faulty(SMALL + ";rule a suit;rule ^a suit", 3);
         faulty(SMALL + ";rule a suit;rule ^a", 3);
         faulty(SMALL + ";rule a suit;rule   ^a 1", 3);
+        faulty(SMALL + ";rule a suit;rule ^a;", 3);
+        faulty(SMALL + ";rule a suit;rule ^a1", 3);
         sound(SMALL + ";rule a suit;rule b suit", 2);
     }
 
